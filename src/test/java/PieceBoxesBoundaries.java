@@ -314,17 +314,17 @@ public final class PieceBoxesBoundaries {
 
     private static void eIsZero() {
         coverDue("E 0, to the right", true, 0, 8, 16, 8, 8, 40);
-        coverDue("E 0, to the right, 1 up", true, 0, 9, 16, 7, 8, 40);
-        coverDue("E 0, to the right, 1 down", false, 0, 7, 16, 9, 8, 40);
+        coverDue("E 0, to the right, 2 up", true, 0, 9, 16, 7, 8, 40);
+        coverDue("E 0, to the right, 2 down", false, 0, 7, 16, 9, 8, 40);
         coverDue("E 0, to the left", false, 16, 8, 0, 8, 8, -40);
-        coverDue("E 0, to the left, 1 up", true, 16, 9, 0, 7, 8, -40);
-        coverDue("E 0, to the left, 1 down", false, 16, 7, 0, 9, 8, -40);
+        coverDue("E 0, to the left, 2 up", true, 16, 9, 0, 7, 8, -40);
+        coverDue("E 0, to the left, 2 down", false, 16, 7, 0, 9, 8, -40);
         coverDue("E 0, up", true, 8, 16, 8, 0, 40, 8);
-        coverDue("E 0, up, 1 to the right", true, 7, 16, 9, 0, 40, 8);
-        coverDue("E 0, up, 1 to the left", true, 9, 16, 7, 0, 40, 8);
+        coverDue("E 0, up, 2 to the right", true, 7, 16, 9, 0, 40, 8);
+        coverDue("E 0, up, 2 to the left", true, 9, 16, 7, 0, 40, 8);
         coverDue("E 0, down", false, 8, 0, 8, 16, -40, 8);
-        coverDue("E 0, down, 1 to the right", false, 7, 0, 9, 16, -40, 8);
-        coverDue("E 0, down, 1 to the left", false, 9, 0, 7, 16, -40, 8);
+        coverDue("E 0, down, 2 to the right", false, 7, 0, 9, 16, -40, 8);
+        coverDue("E 0, down, 2 to the left", false, 9, 0, 7, 16, -40, 8);
         coverDue("E 0, down to the right", false, 1, 3, 15, 13, -17, 43);
         coverDue("E 0, down to the left", false, 13, 1, 3, 15, -27, -17);
         coverDue("E 0, up to the left", true, 15, 13, 1, 3, 33, -27);
