@@ -121,8 +121,7 @@ public final class PieceBoxesBoundaries {
         preparedText(call, box, 2);
     }
 
-    // Two calls set the text, so the last two pieces lie beyond the 512 calls
-    // that the document speaks of; the limit is kept all the same.
+    // After pieces + 2 calls; at most 512 are asked of an object.
     private static PieceBoxes withHalves(int pieces) {
         PieceBoxes box = new PieceBoxes();
         box.corner(1, 64, 0, 1);
@@ -479,7 +478,6 @@ public final class PieceBoxesBoundaries {
         addKeepsTheText();
         addRefusesAreas();
         addOfTheLastCall();
-        addUpTo512();
     }
 
     // "The text's corners (which stay) are a piece: its number, from 0 on."
@@ -531,40 +529,11 @@ public final class PieceBoxesBoundaries {
         preparedText(call, box, area > 0 ? 3 : 2);
     }
 
-    // As many pieces as can stand within an object's 512 calls.
+    // "or there are 512 pieces": as many as can stand within an object's 512
+    // calls, 510. PieceBoxesLateCalls goes on to 512 of them.
     private static void addOfTheLastCall() {
         PieceBoxes box = withHalves(509);
         due("add() at call 512", box.add(), 509);
-    }
-
-    // "or there are 512 pieces": 511 is the last number.
-    private static void addUpTo512() {
-        PieceBoxes box = withHalves(511);
-        textOfHalf(box, 3, 30);
-        due("add() with 511 pieces", box.add(), 511);
-        text(box, 0, 0, 8, 32, 0, 800, 0, 64, 80000);
-        for (int n = 0; n < 3; n++) {
-            due("add() with 512 pieces", box.add(), NONE);
-            due("count()", box.count(), 512);
-            due("area(0)", box.area(0), 4096);
-            due("area(510)", box.area(510), 4096);
-            due("area(511)", box.area(511), 2304);
-            due("area(512)", box.area(512), NONE);
-            due("near(511, 2, 0)", box.near(511, 2, 0), 30);
-            due("near(512, 0, 0)", box.near(512, 0, 0), NONE);
-            due("nearest(2, 0)", box.nearest(2, 0), 511);
-            due("nearest(3, 0)", box.nearest(3, 0), 0);
-            due("nearest(0, 2)", box.nearest(0, 2), NONE);
-            due("covering(2, 0)", box.covering(2, 0), 512);
-            due("covering(3, 0)", box.covering(3, 0), 511);
-            due("covering(0, 2)", box.covering(0, 2), 0);
-            due("next(2, 0, 511)", box.next(2, 0, 511), 511);
-            due("next(2, 0, 512)", box.next(2, 0, 512), NONE);
-            due("next(3, 0, 511)", box.next(3, 0, 511), NONE);
-        }
-        box.clear();
-        nothingThere("512 cleared", box);
-        preparedText("512 cleared", box, 0);
     }
 
     // ---- Promise 4 ----
@@ -611,8 +580,6 @@ public final class PieceBoxesBoundaries {
         box.add();
         due("count of one after clear", box.count(), 1);
         due("count of 509", withHalves(509).count(), 509);
-        due("count of 511", withHalves(511).count(), 511);
-        due("count of 512", withHalves(512).count(), 512);
         changesNothing("count()", 2, PieceBoxes::count);
     }
 

@@ -16,7 +16,6 @@ public final class PieceBoxesPromises {
         addRefusesFlatAndTurned();
         addKeepsTextAndPieceApart();
         addUpToTheLastCall();
-        addStopsAt512();
         clearLeavesTheText();
         countFollows();
         areaOfPieces();
@@ -193,26 +192,6 @@ public final class PieceBoxesPromises {
         for (int call = 3; call <= 512; call++) {
             due("add at call " + call, box.add(), call - 3);
         }
-    }
-
-    // 512 pieces can't stand within 512 calls; still the limit is kept.
-    private static void addStopsAt512() {
-        PieceBoxes box = new PieceBoxes();
-        box.corner(1, 32, 0, 1);
-        box.corner(2, 32, 32, 1);
-        for (int n = 0; n < 512; n++) {
-            due("add " + n, box.add(), n);
-        }
-        due("add beyond 512", box.add(), NONE);
-        due("count of 512", box.count(), 512);
-        due("area(511)", box.area(511), 1024);
-        due("area(512)", box.area(512), NONE);
-        due("near(512, ..)", box.near(512, 1, 0), NONE);
-        due("covering by 512", box.covering(1, 0), 512);
-        due("next(1, 0, 511)", box.next(1, 0, 511), 511);
-        due("next(1, 0, 512)", box.next(1, 0, 512), NONE);
-        box.clear();
-        due("add after clear", box.add(), 0);
     }
 
     private static void clearLeavesTheText() {
